@@ -237,20 +237,33 @@ public final class PromiseTest {
         due("4: audit", row.audit(), 0);
     }
 
+    /** With member 2 lost the stripes 0, 3, 6, .. have no parity: records of three cells, as many as can be. */
     private static void manySmallRecords() {
         ParityRow row = new ParityRow(0);
         row.lose(2);
-        for (int k = 0; k < 10; k++) {
-            due("4: small record", row.write(0, 1, k), 1);
+        for (int k = 0; k < 8; k++) {
+            due("4: small record", row.write(6 * k, 1, 100 * k), 1);
         }
+        row.write(1, 1, 800);
+        row.write(7, 1, 900);
         due("4: ten of three cells", row.journal(1), 10);
         due("4: two cells are free", row.journal(0), 2);
-        due("4: one more", row.write(0, 1, 10), 1);
+        due("4: one more", row.write(13, 1, 1000), 1);
         due("4: ten again", row.journal(1), 10);
-        due("4: the oldest is gone", row.record(0, 3), 2);
-        due("4: the newest", row.record(9, 3), 11);
-        dueWords("4: the newest", row, 0, 10);
         due("4: way 1", row.count(10), 11);
+        due("4: the oldest is drained", row.look(0), 0);
+        for (int k = 0; k < 10; k++) {
+            int block = k < 7 ? 6 * (k + 1) : 6 * (k - 7) + 1;
+            due("18: stripe of record " + k, row.record(k, 0), block / 2);
+            due("18: data of record " + k, row.record(k, 1), k < 7 ? 1 : 2);
+            due("18: serial of record " + k, row.record(k, 3), k + 2);
+            due("5: of the journal", row.look(block), 1);
+            dueWords("4: of the journal", row, block, 100 * (k + 1));
+        }
+        row.drain(32);
+        for (int k = 0; k < 8; k++) {
+            dueWords("7: drained", row, 6 * k, 100 * k);
+        }
     }
 
     private static void writeLosesPower() {
@@ -408,16 +421,11 @@ public final class PromiseTest {
         due("8: down first", row.lose(-1), DOWN);
         due("9: down first", row.spare(), DOWN);
         row = new ParityRow(0);
-        row.write(0, 1, 1);
+        row.rot(0, 0, 0, 1);
         row.cut(0, 3);
-        row.drain(1);
-        row.start(0);
-        due("8: still down", row.lose(0), DOWN);
+        row.scrub(1);
         row.start(NONE);
-        row.write(0, 1, 1);
-        row.cut(0, 3);
-        row.drain(1);
-        row.start(NONE);
+        due("13: TORN by a scrub", row.chunk(0, 0, 9), 1);
         row.lose(0);
         row.spare();
         due("9: nothing torn", row.chunk(0, 0, 9), 0);
@@ -542,6 +550,12 @@ public final class PromiseTest {
         due("10: still NEW", row.member(0, 0), 2);
         due("10: BUILT 0", row.member(0, 1), 0);
         row.start(NONE);
+        row.write(0, 2, 100);
+        row.cut(0, 0);
+        due("10: power goes at a drain", row.build(24), LOST);
+        due("10: before the reads", row.count(3), 4 + 48);
+        due("10: down", row.build(24), DOWN);
+        due("14: that record counted", row.start(NONE), 1);
         due("10: once more", row.build(24), 0);
         due("10: ON", row.member(0, 0), 0);
         dueWords("10: all is there", row, 0, 100);
@@ -909,6 +923,16 @@ public final class PromiseTest {
         due("20: a lost member", row.audit(), 0);
         row.spare();
         due("20: a NEW member", row.audit(), 0);
+        row = new ParityRow(0);
+        row.write(0, 1, 3);
+        row.write(1, 1, 2);
+        row.drain(2);
+        row.rot(0, 0, 0, 3);
+        row.rot(0, 0, 1, 1);
+        row.rot(1, 0, 0, 7);
+        row.rot(1, 0, 1, 1);
+        due("20: both SUMS are right", row.chunk(0, 0, 10) + row.chunk(1, 0, 10), 2);
+        due("20: uneven in word 0 alone", row.audit(), 1);
         row = unevenRow();
         row.write(2, 1, 1);
         row.cut(0, 0);
