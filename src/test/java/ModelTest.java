@@ -6,7 +6,10 @@ import java.util.TreeMap;
 // Long runs of calls, all answers against a plain model that has the journal's cells one by one and reads
 // them again after power came back. The seeds are fixed, so each run is the same each time.
 public final class ModelTest {
-    private static final int RUNS = 1200, CALLS = 400;
+    private static final int RUNS = 1200, CALLS = 360;
+
+    /** What an object answers after so many calls is free: it is not asked more. */
+    private static final int MOST_CALLS = 512;
     private static final int NONE = ParityRow.NONE, DOWN = ParityRow.DOWN, UNKNOWN = ParityRow.UNKNOWN,
             OUTSIDE = ParityRow.OUTSIDE, STATE = ParityRow.STATE, FAILED = ParityRow.FAILED, LOST = ParityRow.LOST;
     private static final long BOUNDS = 1L << 40, ILLEGAL = 1L << 41;
@@ -578,6 +581,35 @@ public final class ModelTest {
         }
     }
 
+    /** The calls of a run so far, and a row with the same past to be asked: a new one when its calls are used up. */
+    private static final class Past {
+        final int members;
+        final List<int[]> calls = new ArrayList<>();
+        private ParityRow row = null;
+        private int used = 0;
+
+        Past(int members) {
+            this.members = members;
+        }
+
+        void add(int... call) {
+            calls.add(call);
+            row = null;
+        }
+
+        ParityRow ask() {
+            if (row == null || used == MOST_CALLS) {
+                row = new ParityRow(members);
+                for (int[] c : calls) {
+                    answered(row, c[0], c[1], c[2], c[3], c[4]);
+                }
+                used = calls.size();
+            }
+            used++;
+            return row;
+        }
+    }
+
     private static int wrong = 0;
     private static final int[] seen = new int[8];
 
@@ -642,7 +674,7 @@ public final class ModelTest {
         }
     }
 
-    private static void call(Random random, int[] weights, ParityRow row, Model model, String where) {
+    private static void call(Random random, int[] weights, ParityRow row, Past past, Model model, String where) {
         int n = model.n;
         int blocks = 24 * (n - 1);
         int sum = 0;
@@ -667,42 +699,43 @@ public final class ModelTest {
                 : kind == 7 ? pick(random, 0, 8) : kind == 10 ? pick(random, 0, 7) : pick(random, 0, 2);
         int c = kind == 6 ? pick(random, 0, 7) : random.nextInt();
         int d = random.nextInt(4) == 0 ? random.nextInt() : 1 << random.nextInt(3);
+        past.add(kind, a, b, c, d);
         long want = modelled(model, kind, a, b, c, d);
         due(where + " call " + kind + " (" + a + ", " + b + ", " + c + ", " + d + ")",
                 answered(row, kind, a, b, c, d), want);
         seen[want == LOST ? 0 : want == FAILED ? 1 : want == STATE ? 2 : want == DOWN ? 3 : 4]++;
     }
 
-    private static void compare(ParityRow row, Model model, boolean all, String where) {
+    private static void compare(Past past, Model model, boolean all, String where) {
         for (int k = -1; k <= 13; k++) {
-            due(where + " count " + k, row.count(k), model.count(k));
+            due(where + " count " + k, past.ask().count(k), model.count(k));
         }
         for (int k = -1; k <= 5; k++) {
-            due(where + " journal " + k, row.journal(k), model.journal(k));
+            due(where + " journal " + k, past.ask().journal(k), model.journal(k));
         }
         for (int k = -1; k <= 11; k++) {
             for (int what = -1; what <= 5; what++) {
-                due(where + " record " + k + " " + what, row.record(k, what), model.record(k, what));
+                due(where + " record " + k + " " + what, past.ask().record(k, what), model.record(k, what));
             }
         }
         for (int m = -1; m <= model.n; m++) {
             for (int what = -1; what <= 3; what++) {
-                due(where + " member " + m + " " + what, row.member(m, what), model.member(m, what));
+                due(where + " member " + m + " " + what, past.ask().member(m, what), model.member(m, what));
             }
         }
-        due(where + " members", row.members(), model.n);
-        due(where + " audit", row.audit(), model.audit());
+        due(where + " members", past.ask().members(), model.n);
+        due(where + " audit", past.ask().audit(), model.audit());
         for (int m = -1; all && m <= model.n; m++) {
             for (int s = -1; s <= 24; s++) {
                 for (int i = -1; i <= 11; i++) {
-                    due(where + " chunk " + m + " " + s + " " + i, row.chunk(m, s, i), model.chunk(m, s, i));
+                    due(where + " chunk " + m + " " + s + " " + i, past.ask().chunk(m, s, i), model.chunk(m, s, i));
                 }
             }
         }
         for (int b = -1; all && b <= 24 * (model.n - 1); b++) {
-            due(where + " look " + b, row.look(b), model.look(b));
+            due(where + " look " + b, past.ask().look(b), model.look(b));
             for (int i = -1; i <= 8; i++) {
-                due(where + " word " + b + " " + i, wordOf(row, b, i), model.word(b, i));
+                due(where + " word " + b + " " + i, wordOf(past.ask(), b, i), model.word(b, i));
             }
         }
     }
@@ -718,12 +751,13 @@ public final class ModelTest {
             Random random = new Random(run);
             int members = run % 8 < 4 ? run % 4 : random.nextInt();
             ParityRow row = new ParityRow(members);
+            Past past = new Past(members);
             Model model = new Model(members);
             for (int k = 0; k < CALLS && wrong < 20; k++) {
                 String where = "run " + run + " at " + k;
-                call(random, weights[run / 4 % 4], row, model, where);
+                call(random, weights[run / 4 % 4], row, past, model, where);
                 if (k % 8 == 0) {
-                    compare(row, model, k % 80 == 0, where);
+                    compare(past, model, k % 80 == 0, where);
                 }
             }
         }

@@ -63,12 +63,10 @@ public final class PromiseTest {
             due("1/2: members() of " + given[k], row.members(), members[k]);
             for (int m = 0; m < members[k]; m++) {
                 due("1: member " + m, row.member(m, 0), 0);
-                for (int s = 0; s < 24; s++) {
-                    for (int i = 0; i < 10; i++) {
-                        due("1: chunk at first", row.chunk(m, s, i), 0);
-                    }
-                    due("1: chunk THERE at first", row.chunk(m, s, 10), 1);
+                for (int i = 0; i < 10; i++) {
+                    due("1: chunk at first", row.chunk(m, 23 - m, i), 0);
                 }
+                due("1: chunk THERE at first", row.chunk(m, 23 - m, 10), 1);
             }
             due("1: power stays", row.write(0, 1, 1), 1);
             due("1: power stays", row.drain(32), 0);
@@ -466,7 +464,8 @@ public final class PromiseTest {
         due("10: none is NEW", row.build(1), STATE);
         due("10: audit", row.audit(), 0);
         for (int block = 0; block < 96; block++) {
-            dueWords("10: built up", row, block, 1000 + 8 * block);
+            due("10: built up", word(row, block, 0), 1000 + 8 * block);
+            due("10: built up", word(row, block, 7), 1007 + 8 * block);
             due("10: from its member", row.look(block), 0);
         }
         due("10: down first", downRow(0).build(0), DOWN);
@@ -593,7 +592,8 @@ public final class PromiseTest {
         due("11: writes", row.count(0), writes + 3);
         due("11: audit", row.audit(), 0);
         for (int block = 0; block < 72; block++) {
-            dueWords("11: all is there", row, block, 8 * (block % 6) + block / 6 * 6);
+            due("11: all is there", word(row, block, 0), 8 * (block % 6) + block / 6 * 6);
+            due("11: all is there", word(row, block, 7), 8 * (block % 6) + block / 6 * 6 + 7);
         }
         row.lose(0);
         due("11: OUTSIDE before STATE", row.scrub(0), OUTSIDE);
